@@ -1,0 +1,98 @@
+/** Promises 30 to 32: channels, positions, letting go. */
+final class ActuatorTest {
+    public static void main(String[] args) {
+        middles();
+        letsGo();
+        staysTillAReset();
+        doesNotGoRound();
+        refusals();
+        Check.end();
+    }
+
+    private static void middles() {
+        Triplane x = Check.running("l0 50", "o0 1");
+        Check.same("fault", 0, x.fault(1, 0, -60));
+        Check.same("fault", -60, x.fault(1, 0, -30));
+        Check.same("fault of another channel", 0, x.fault(1, 2, 20));
+        Check.same("fault of another output", 0, x.fault(2, 2, 9));
+        Check.same("only behind a frame", 0, x.position(1));
+        x.frame();
+        Check.same("the middle of 20, 50 and 70", 50, x.position(1));
+        x.fault(1, 1, 20);
+        x.frame();
+        Check.same("the middle of 20, 70 and 70", 70, x.position(1));
+        Check.same("the middle of 0, 0 and 9", 0, x.position(2));
+        for (int i = 0; i < 3; i++) {
+            x.shut(i);
+        }
+        x.fault(1, 1, 10);
+        x.frame();
+        Check.same("with all off", 60, x.position(1));
+    }
+
+    private static void letsGo() {
+        Triplane x = Check.running("l0 50", "o0 0", "o0 3");
+        x.fault(0, 0, -40);
+        x.fault(0, 1, 60);
+        x.fault(3, 0, -40);
+        x.fault(3, 2, 61);
+        Check.same("only behind a frame", false, x.hasLetGo(3));
+        x.frame();
+        Check.same("100 above holds", false, x.hasLetGo(0));
+        Check.same("its position", 50, x.position(0));
+        Check.same("101 above lets go", true, x.hasLetGo(3));
+        Check.same("its position", 0, x.position(3));
+    }
+
+    private static void staysTillAReset() {
+        Triplane x = Check.running("l0 50", "o0 0");
+        x.fault(0, 0, 101);
+        x.fault(1, 0, -999);
+        x.frame();
+        x.fault(0, 0, 0);
+        x.frame();
+        Check.same("it stays", true, x.hasLetGo(0));
+        Check.same("at 0", 0, x.position(0));
+        x.arm('a');
+        Check.same("reset", 2, x.give('a'));
+        Check.same("reset at once", false, x.hasLetGo(0));
+        Check.same("at 0 till the frame", 0, x.position(0));
+        x.arm('a');
+        Check.same("none left to reset", 0, x.give('a'));
+        x.frame();
+        Check.same("back again", 50, x.position(0));
+        Check.same("holds", false, x.hasLetGo(0));
+        Check.same("another one lets go anew", true, x.hasLetGo(1));
+    }
+
+    private static void doesNotGoRound() {
+        Triplane x = Check.running("l0 32767", "o0 0", "l0 -32768", "o0 1", "o0 2");
+        for (int i = 0; i < 3; i++) {
+            x.fault(0, i, 999);
+            x.fault(1, i, -999);
+        }
+        x.fault(2, 0, -50);
+        x.fault(2, 1, -20);
+        x.frame();
+        Check.same("above", 33766, x.position(0));
+        Check.same("below", -33767, x.position(1));
+        Check.same("near the edge", -32788, x.position(2));
+        Check.same("no far channels by going round", false, x.hasLetGo(2));
+    }
+
+    private static void refusals() {
+        Triplane x = new Triplane();
+        for (int wrong : new int[] {-1, 4, Integer.MIN_VALUE, Integer.MAX_VALUE}) {
+            Check.refuses("fault", IndexOutOfBoundsException.class, x, () -> x.fault(wrong, 0, 1000));
+            Check.refuses("fault", IndexOutOfBoundsException.class, x, () -> x.fault(0, wrong, 1000));
+            Check.refuses("position", IndexOutOfBoundsException.class, x, () -> x.position(wrong));
+            Check.refuses("hasLetGo", IndexOutOfBoundsException.class, x, () -> x.hasLetGo(wrong));
+        }
+        Check.refuses("channel 3", IndexOutOfBoundsException.class, x, () -> x.fault(0, 3, 0));
+        for (int wrong : new int[] {-1000, 1000, Integer.MIN_VALUE, Integer.MAX_VALUE}) {
+            Check.refuses("fault", IllegalArgumentException.class, x, () -> x.fault(0, 0, wrong));
+        }
+        Check.same("the fault stays", 0, x.fault(0, 0, 999));
+        Check.same("the edges", 999, x.fault(0, 0, -999));
+    }
+}

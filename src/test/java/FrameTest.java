@@ -1,0 +1,154 @@
+/** Promises 5 to 10 and 21: frames, time, mode, outputs, the plain one, overruns. */
+final class FrameTest {
+    public static void main(String[] args) {
+        framesCount();
+        slotsRunInTheirOrder();
+        onlySlotsOfTheModeRun();
+        outputs();
+        plainRunsAlone();
+        overrunsAtTheEdge();
+        overrunsOfEachSlot();
+        overrunsOfThoseOnOnly();
+        refusals();
+        Check.end();
+    }
+
+    private static void framesCount() {
+        Triplane x = new Triplane();
+        Check.same("frame", 3, x.frame());
+        x.shut(1);
+        Check.same("frame with two", 2, x.frame());
+        x.shut(0);
+        Check.same("frame with one", 1, x.frame());
+        x.shut(2);
+        Check.same("frame with none", 0, x.frame());
+        Check.same("time", 4, x.time());
+    }
+
+    private static void slotsRunInTheirOrder() {
+        Triplane x = new Triplane();
+        for (int i = 0; i < 3; i++) {
+            Check.write(x, i, "l0 " + (i + 1), "o0 0");
+        }
+        x.slot(0, 0, 2);
+        x.slot(0, 1, 0);
+        x.slot(0, 2, 1);
+        x.frame();
+        Check.same("the last slot", 2, x.output(0));
+        x.slot(0, 2, -1);
+        x.frame();
+        Check.same("the middle slot", 1, x.output(0));
+        x.slot(0, 1, -1);
+        x.frame();
+        Check.same("the first slot", 3, x.output(0));
+    }
+
+    private static void onlySlotsOfTheModeRun() {
+        Triplane x = Check.running("r0 0", "l1 1", "a0 1", "m0 0");
+        x.slot(1, 1, 1);
+        Check.write(x, 1, "l0 5", "m0 1");
+        x.frame();
+        Check.same("partition 0 ran", 1, x.word(0, 0, 0));
+        Check.same("partition 1 did not", 0, x.word(0, 1, 1));
+        x.arm('m');
+        x.give('m');
+        Check.same("mode", 1, x.mode());
+        x.frame();
+        Check.same("partition 0 did not run", 1, x.word(0, 0, 0));
+        Check.same("partition 1 ran", 5, x.word(0, 1, 1));
+    }
+
+    private static void outputs() {
+        Triplane x = Check.running("l0 -7", "o0 3", "l0 8", "o0 1", "l0 9", "o0 1");
+        x.frame();
+        Check.same("output 0", 0, x.output(0));
+        Check.same("output 1, the latest", 9, x.output(1));
+        Check.same("output 3", -7, x.output(3));
+        Check.same("plain 1", 9, x.plain(1));
+        Check.same("plain 3", -7, x.plain(3));
+        x.slot(0, 0, -1);
+        x.frame();
+        Check.same("an output stays", 9, x.output(1));
+    }
+
+    private static void plainRunsAlone() {
+        Triplane x = Check.running("r0 0", "l1 1", "a0 1", "m0 0", "o0 2");
+        x.frame();
+        for (int i = 0; i < 3; i++) {
+            x.shut(i);
+        }
+        Check.same("still as the plain one", true, x.isPlain());
+        x.frame();
+        Check.same("output with all off", 1, x.output(2));
+        Check.same("plain with all off", 2, x.plain(2));
+        Check.same("is plain", false, x.isPlain());
+        Check.same("words of those off", 1, x.word(0, 0, 0));
+        Triplane y = Check.running("l0 3", "o0 0");
+        y.stick(0, 0, 0, false);
+        y.stick(1, 0, 0, false);
+        y.frame();
+        Check.same("two wrong ones", 2, y.output(0));
+        Check.same("plain", 3, y.plain(0));
+        Check.same("is plain", false, y.isPlain());
+    }
+
+    private static void overrunsAtTheEdge() {
+        // Two beats ahead, then nine loops of three beats: 29, and the ones behind.
+        Triplane x = Check.running("l0 9", "l1 1", "s0 1", "l2 0", "j0 2");
+        x.frame();
+        Check.same("29 beats", 0, x.overruns(0));
+        x.code(0, 'l', 3, 0);
+        x.frame();
+        Check.same("30 beats", 0, x.overruns(0));
+        x.code(0, 'l', 3, 0);
+        x.frame();
+        Check.same("31 beats", 1, x.overruns(0));
+        x.clear(0);
+        Check.same("overruns outlive the code", 1, x.overruns(0));
+        // The 30th beat still gives its output, a 31st does not.
+        Triplane y = Check.running("l0 9", "l1 1", "s0 1", "l2 0", "j0 2", "o1 0", "o1 1");
+        y.frame();
+        Check.same("beat 30", 1, y.output(0));
+        Check.same("beat 31", 0, y.output(1));
+        Check.same("beat 31 of the plain one", 0, y.plain(1));
+    }
+
+    private static void overrunsOfEachSlot() {
+        Triplane x = Check.running("l0 1", "j0 0");
+        x.slot(0, 1, 1);
+        x.slot(0, 2, 0);
+        x.frame();
+        Check.same("two slots", 2, x.overruns(0));
+        Check.same("the slot between", 0, x.overruns(1));
+        x.frame();
+        Check.same("two slots more", 4, x.overruns(0));
+    }
+
+    private static void overrunsOfThoseOnOnly() {
+        Triplane x = Check.running("l0 1", "j0 0");
+        for (int i = 0; i < 3; i++) {
+            x.shut(i);
+        }
+        x.frame();
+        Check.same("the plain one does not count", 0, x.overruns(0));
+        // Only the computer 1 loops, without giving anything that the others don't.
+        Triplane y = Check.running("l0 0", "j0 0");
+        y.stick(1, 0, 0, true);
+        y.frame();
+        Check.same("one that loops counts", 1, y.overruns(0));
+        Check.same("with no strike", 0, y.strikes(1));
+        y.shut(1);
+        y.frame();
+        Check.same("one that is off does not", 1, y.overruns(0));
+    }
+
+    private static void refusals() {
+        Triplane x = new Triplane();
+        for (int wrong : new int[] {-1, 4, Integer.MIN_VALUE, Integer.MAX_VALUE}) {
+            Check.refuses("output", IndexOutOfBoundsException.class, x, () -> x.output(wrong));
+            Check.refuses("plain", IndexOutOfBoundsException.class, x, () -> x.plain(wrong));
+            Check.refuses("overruns", IndexOutOfBoundsException.class, x, () -> x.overruns(wrong));
+        }
+        Check.refuses("overruns", IndexOutOfBoundsException.class, x, () -> x.overruns(3));
+    }
+}
