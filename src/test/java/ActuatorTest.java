@@ -42,6 +42,15 @@ final class ActuatorTest {
         Check.same("its position", 50, x.position(0));
         Check.same("101 above lets go", true, x.hasLetGo(3));
         Check.same("its position", 0, x.position(3));
+        int[][] orders = {{0, 50, 101}, {0, 101, 50}, {50, 0, 101}, {50, 101, 0}, {101, 0, 50}, {101, 50, 0}};
+        for (int[] order : orders) {
+            Triplane y = new Triplane();
+            for (int i = 0; i < 3; i++) {
+                y.fault(1, i, order[i]);
+            }
+            y.frame();
+            Check.same("any two channels", true, y.hasLetGo(1));
+        }
     }
 
     private static void staysTillAReset() {

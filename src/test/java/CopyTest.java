@@ -40,6 +40,13 @@ final class CopyTest {
         Check.same("the plain one has it too", 7, x.plain(1));
         Check.same("all as the plain one", true, x.isPlain());
         Check.same("still true", true, x.isTrue());
+        x.clear(0);
+        Check.write(x, 0, "l0 1", "m0 0", "l0 2", "m0 1", "l0 3", "m0 5");
+        x.frame();
+        x.save(0, false);
+        Check.same("the answer is the word 0", 1, x.load(0));
+        Check.same("the word 1", 2, x.word(0, 0, 1));
+        Check.same("the word 5", 3, x.word(0, 0, 5));
     }
 
     private static void theNewestGoodOneOutlives() {

@@ -131,15 +131,17 @@ final class FrameTest {
         }
         x.frame();
         Check.same("the plain one does not count", 0, x.overruns(0));
-        // Only the computer 1 loops, without giving anything that the others don't.
-        Triplane y = Check.running("l0 0", "j0 0");
-        y.stick(1, 0, 0, true);
-        y.frame();
-        Check.same("one that loops counts", 1, y.overruns(0));
-        Check.same("with no strike", 0, y.strikes(1));
-        y.shut(1);
-        y.frame();
-        Check.same("one that is off does not", 1, y.overruns(0));
+        // Only one computer loops, without giving anything that the others don't.
+        for (int odd = 0; odd < 3; odd++) {
+            Triplane y = Check.running("l0 0", "j0 0");
+            y.stick(odd, 0, 0, true);
+            y.frame();
+            Check.same("one that loops counts", 1, y.overruns(0));
+            Check.same("with no strike", 0, y.strikes(odd));
+            y.shut(odd);
+            y.frame();
+            Check.same("one that is off does not", 1, y.overruns(0));
+        }
     }
 
     private static void refusals() {

@@ -26,6 +26,10 @@ final class MemoryTest {
         }
         Check.same("all set", -1, x.word(0, 0, 0));
         Check.same("others are not touched", 0, x.word(1, 0, 0));
+        Triplane y = Check.running("l0 6", "m0 2");
+        y.frame();
+        Check.same("a bit that is set", 1, y.flip(0, 0, 2, 1));
+        Check.same("is set no more", 4, y.word(0, 0, 2));
     }
 
     private static void readingMendsOne() {

@@ -40,6 +40,14 @@ final class TruthTest {
         y.flip(0, 0, 0, 0);
         y.frame();
         Check.same("true once it was flipped", true, y.isTrue());
+        Triplane z = Check.running("l0 8", "r1 0", "o0 0");
+        for (int i = 0; i < 3; i++) {
+            z.flip(i, 0, 0, 0);
+            z.flip(i, 0, 0, 1);
+        }
+        Check.same("all are shut off", 0, z.frame());
+        Check.same("not as the plain one", false, z.isPlain());
+        Check.same("true nevertheless", true, z.isTrue());
     }
 
     private static void withAllOff() {
