@@ -5,7 +5,6 @@ final class ActuatorTest {
         letsGo();
         staysTillAReset();
         doesNotGoRound();
-        refusals();
         Check.end();
     }
 
@@ -87,21 +86,5 @@ final class ActuatorTest {
         Check.same("below", -33767, x.position(1));
         Check.same("near the edge", -32788, x.position(2));
         Check.same("no far channels by going round", false, x.hasLetGo(2));
-    }
-
-    private static void refusals() {
-        Triplane x = new Triplane();
-        for (int wrong : new int[] {-1, 4, Integer.MIN_VALUE, Integer.MAX_VALUE}) {
-            Check.refuses("fault", IndexOutOfBoundsException.class, x, () -> x.fault(wrong, 0, 1000));
-            Check.refuses("fault", IndexOutOfBoundsException.class, x, () -> x.fault(0, wrong, 1000));
-            Check.refuses("position", IndexOutOfBoundsException.class, x, () -> x.position(wrong));
-            Check.refuses("hasLetGo", IndexOutOfBoundsException.class, x, () -> x.hasLetGo(wrong));
-        }
-        Check.refuses("channel 3", IndexOutOfBoundsException.class, x, () -> x.fault(0, 3, 0));
-        for (int wrong : new int[] {-1000, 1000, Integer.MIN_VALUE, Integer.MAX_VALUE}) {
-            Check.refuses("fault", IllegalArgumentException.class, x, () -> x.fault(0, 0, wrong));
-        }
-        Check.same("the fault stays", 0, x.fault(0, 0, 999));
-        Check.same("the edges", 999, x.fault(0, 0, -999));
     }
 }

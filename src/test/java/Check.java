@@ -1,6 +1,7 @@
 /** What the tests share: comparing, asking for refusals, and short ways to set a Triplane up. */
 final class Check {
     private static int wrong = 0;
+    private static String about = "";
 
     private Check() {
     }
@@ -42,9 +43,14 @@ final class Check {
         same(what + " leaves all as it is", before, seen(x));
     }
 
+    /** Tells of which words of the document the next comparisons are; they stand ahead of what is reported. */
+    static void about(String words) {
+        about = "[" + words + "] ";
+    }
+
     static void report(String text) {
         wrong++;
-        System.out.println(text);
+        System.out.println(about + text);
     }
 
     static void end() {
@@ -54,24 +60,28 @@ final class Check {
         }
     }
 
-    /** All that a Triplane tells without being changed. */
+    /** What a Triplane tells without being changed, in some 40 calls; the checksum tells of words and clocks. */
     static String seen(Triplane x) {
         StringBuilder all = new StringBuilder();
-        all.append(x.time()).append(' ').append(x.mode()).append(' ').append(x.isPlain());
-        all.append(' ').append(x.onShare()).append(' ').append(x.meanOutput());
-        all.append(' ').append(x.checksum()).append(' ').append(x.isTrue());
+        all.append(x.time()).append(' ').append(x.mode()).append(' ').append(x.checksum());
+        all.append(' ').append(x.isPlain()).append(' ').append(x.isTrue());
         for (int i = 0; i < 4; i++) {
-            all.append(" out ").append(x.output(i)).append(' ').append(x.plain(i)).append(' ').append(x.agreed(i));
+            all.append(" out ").append(x.plain(i)).append(' ').append(x.agreed(i));
             all.append(' ').append(x.position(i)).append(' ').append(x.hasLetGo(i));
         }
         for (int i = 0; i < 3; i++) {
-            all.append(" of ").append(x.isOn(i)).append(' ').append(x.strikes(i)).append(' ').append(x.mended(i));
-            all.append(' ').append(x.clock(i)).append(' ').append(x.overruns(i)).append(' ');
-            for (int j = 0; j < 18; j++) {
-                all.append(x.word(i, j / 6, j % 6)).append(',');
-            }
+            all.append(" of ").append(x.isOn(i)).append(' ').append(x.strikes(i));
+            all.append(' ').append(x.mended(i)).append(' ').append(x.overruns(i));
         }
-        return all.append(" log ").append(lines(x)).toString();
+        return all.append(" log ").append(latestLine(x)).toString();
+    }
+
+    private static String latestLine(Triplane x) {
+        try {
+            return x.line(0, 't') + ":" + x.line(0, 'c') + (char) x.line(0, 'r');
+        } catch (java.util.NoSuchElementException e) {
+            return "none";
+        }
     }
 
     /** The log, the latest line first, as "4:1m 3:0h". */

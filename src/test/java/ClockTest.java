@@ -8,7 +8,6 @@ final class ClockTest {
         onlyThreeHoldTogether();
         aShutInTheFrameCounts();
         noRounding();
-        refusals();
         Check.end();
     }
 
@@ -102,25 +101,5 @@ final class ClockTest {
         }
         Check.frames(x, 40);
         Check.same("behind 40 frames", 39960, x.clock(1));
-    }
-
-    private static void refusals() {
-        Triplane x = new Triplane();
-        for (int wrong : new int[] {-1, 3, Integer.MIN_VALUE, Integer.MAX_VALUE}) {
-            Check.refuses("drift", IndexOutOfBoundsException.class, x, () -> x.drift(wrong, 10));
-            Check.refuses("lie", IndexOutOfBoundsException.class, x, () -> x.lie(wrong, 0, 1000));
-            Check.refuses("lie", IndexOutOfBoundsException.class, x, () -> x.lie(0, wrong, 1000));
-            Check.refuses("lie", IndexOutOfBoundsException.class, x, () -> x.lie(wrong, wrong, 0));
-            Check.refuses("clock", IndexOutOfBoundsException.class, x, () -> x.clock(wrong));
-        }
-        for (int wrong : new int[] {-10, 10, Integer.MIN_VALUE, Integer.MAX_VALUE}) {
-            Check.refuses("drift", IllegalArgumentException.class, x, () -> x.drift(0, wrong));
-        }
-        for (int wrong : new int[] {-1000, 1000, Integer.MIN_VALUE, Integer.MAX_VALUE}) {
-            Check.refuses("lie", IllegalArgumentException.class, x, () -> x.lie(0, 1, wrong));
-        }
-        Check.refuses("lie to itself", IllegalArgumentException.class, x, () -> x.lie(1, 1, 0));
-        Check.same("the drift stays", 0, x.drift(0, 0));
-        Check.same("the lie stays", 0, x.lie(0, 1, 0));
     }
 }

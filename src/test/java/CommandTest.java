@@ -7,7 +7,6 @@ final class CommandTest {
         onceOnly();
         anotherOneTakesThePlace();
         armedAnew();
-        refusals();
         Check.end();
     }
 
@@ -72,17 +71,5 @@ final class CommandTest {
         Check.frames(x, 3);
         Check.same("from the later one on", 1, x.give('m'));
         Check.refuses("but only once", UnsupportedOperationException.class, x, () -> x.give('m'));
-    }
-
-    private static void refusals() {
-        Triplane x = new Triplane();
-        x.arm('m');
-        for (char wrong : new char[] {'x', 'M', 'A', 0, ' ', 65535}) {
-            Check.refuses("arm", IllegalArgumentException.class, x, () -> x.arm(wrong));
-            Check.refuses("give", IllegalArgumentException.class, x, () -> x.give(wrong));
-        }
-        Check.refuses("another one", UnsupportedOperationException.class, x, () -> x.give('a'));
-        Check.same("what was armed still is", 1, x.give('m'));
-        Check.refuses("no command, none armed", IllegalArgumentException.class, x, () -> x.give((char) 0));
     }
 }

@@ -10,7 +10,6 @@ final class CopyTest {
         ofTheLowestOne();
         offOnesLoadNothing();
         partitionsAreApart();
-        refusals();
         Check.end();
     }
 
@@ -134,16 +133,5 @@ final class CopyTest {
         Check.same("save of another one", 1, x.save(1, false));
         Check.same("load of another one", 0, x.load(1));
         Check.same("the first one", 5, x.word(0, 0, 0));
-    }
-
-    private static void refusals() {
-        Triplane x = new Triplane();
-        for (int i = 0; i < 3; i++) {
-            x.shut(i);
-        }
-        for (int wrong : new int[] {-1, 3, Integer.MIN_VALUE, Integer.MAX_VALUE}) {
-            Check.refuses("save", IndexOutOfBoundsException.class, x, () -> x.save(wrong, false));
-            Check.refuses("load", IndexOutOfBoundsException.class, x, () -> x.load(wrong));
-        }
     }
 }

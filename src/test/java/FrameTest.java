@@ -9,7 +9,6 @@ final class FrameTest {
         overrunsAtTheEdge();
         overrunsOfEachSlot();
         overrunsOfThoseOnOnly();
-        refusals();
         Check.end();
     }
 
@@ -142,15 +141,5 @@ final class FrameTest {
             y.frame();
             Check.same("one that is off does not", 1, y.overruns(0));
         }
-    }
-
-    private static void refusals() {
-        Triplane x = new Triplane();
-        for (int wrong : new int[] {-1, 4, Integer.MIN_VALUE, Integer.MAX_VALUE}) {
-            Check.refuses("output", IndexOutOfBoundsException.class, x, () -> x.output(wrong));
-            Check.refuses("plain", IndexOutOfBoundsException.class, x, () -> x.plain(wrong));
-            Check.refuses("overruns", IndexOutOfBoundsException.class, x, () -> x.overruns(wrong));
-        }
-        Check.refuses("overruns", IndexOutOfBoundsException.class, x, () -> x.overruns(3));
     }
 }

@@ -7,7 +7,6 @@ final class MemoryTest {
         writingForgetsFlips();
         scrubberGoesRound();
         scrubberTellsTwo();
-        refusals();
         Check.end();
     }
 
@@ -125,26 +124,5 @@ final class MemoryTest {
         Check.same("the log", "2:2m 2:0m", Check.lines(x));
         Check.same("mended", 1, x.mended(1));
         Check.same("the word of one that is off", 3, x.word(0, 0, 2));
-    }
-
-    private static void refusals() {
-        Triplane x = new Triplane();
-        x.flip(0, 0, 0, 0);
-        Check.refuses("word", IndexOutOfBoundsException.class, x, () -> x.word(3, 0, 0));
-        Check.refuses("word", IndexOutOfBoundsException.class, x, () -> x.word(-1, 0, 0));
-        Check.refuses("word", IndexOutOfBoundsException.class, x, () -> x.word(0, 3, 0));
-        Check.refuses("word", IndexOutOfBoundsException.class, x, () -> x.word(0, -1, 0));
-        Check.refuses("word", IndexOutOfBoundsException.class, x, () -> x.word(0, 0, 6));
-        Check.refuses("word", IndexOutOfBoundsException.class, x, () -> x.word(0, 0, -1));
-        Check.refuses("flip", IndexOutOfBoundsException.class, x, () -> x.flip(3, 0, 0, 0));
-        Check.refuses("flip", IndexOutOfBoundsException.class, x, () -> x.flip(-1, 0, 0, 0));
-        Check.refuses("flip", IndexOutOfBoundsException.class, x, () -> x.flip(0, 3, 0, 0));
-        Check.refuses("flip", IndexOutOfBoundsException.class, x, () -> x.flip(0, -1, 0, 0));
-        Check.refuses("flip", IndexOutOfBoundsException.class, x, () -> x.flip(0, 0, 6, 0));
-        Check.refuses("flip", IndexOutOfBoundsException.class, x, () -> x.flip(0, 0, -1, 0));
-        Check.refuses("flip", IndexOutOfBoundsException.class, x, () -> x.flip(0, 0, 0, 16));
-        Check.refuses("flip", IndexOutOfBoundsException.class, x, () -> x.flip(0, 0, 0, -1));
-        Check.refuses("mended", IndexOutOfBoundsException.class, x, () -> x.mended(3));
-        Check.refuses("mended", IndexOutOfBoundsException.class, x, () -> x.mended(-1));
     }
 }

@@ -136,17 +136,23 @@ final class ModelRunsTest {
             case "read":
                 return i == 0 ? random.nextInt(4) : value();
             case "limit":
-                return i == 0 ? random.nextInt(4) : random.nextInt(4) == 0 ? 32767 : random.nextInt(60);
+                return i == 0 ? random.nextInt(4) : of(32766, 32767, random.nextInt(60), random.nextInt(60));
             case "drift":
                 return i == 0 ? random.nextInt(3) : random.nextInt(19) - 9;
             case "lie":
-                return i < 2 ? random.nextInt(3) : random.nextInt(1999) - 999;
+                return i < 2 ? random.nextInt(3) : of(-999, 999, random.nextInt(1999) - 999);
             case "fault":
                 return i == 0 ? random.nextInt(4) : i == 1 ? random.nextInt(3) : fault();
             case "line":
                 return random.nextInt(random.nextBoolean() ? 3 : 33);
+            case "output":
+            case "plain":
+            case "agreed":
+            case "position":
+            case "hasLetGo":
+                return random.nextInt(4);
             default:
-                return random.nextInt(List.of("output", "plain", "agreed", "position", "hasLetGo").contains(name) ? 4 : 3);
+                return random.nextInt(3);
         }
     }
 
@@ -156,11 +162,18 @@ final class ModelRunsTest {
     }
 
     private int value() {
-        return random.nextInt(4) == 0 ? random.nextInt(65536) - 32768 : random.nextInt(41) - 20;
+        int any = random.nextInt(65536) - 32768;
+        int edge = of(-32768, -32767, -1, 0, 1, 32766, 32767);
+        return random.nextInt(4) == 0 ? of(any, edge) : random.nextInt(41) - 20;
     }
 
     private int fault() {
-        return random.nextInt(6) == 0 ? random.nextInt(1999) - 999 : random.nextInt(80) - 40;
+        int edge = of(-999, -51, -50, 49, 50, 51, 999);
+        return random.nextInt(4) == 0 ? of(edge, random.nextInt(1999) - 999) : random.nextInt(80) - 40;
+    }
+
+    private int of(int... choices) {
+        return choices[random.nextInt(choices.length)];
     }
 
     private int forKind(char kind) {

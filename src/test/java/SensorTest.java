@@ -8,7 +8,6 @@ final class SensorTest {
         farThreeTimesAnew();
         aNearFrameBetween();
         agreesAheadOfSlots();
-        refusals();
         Check.end();
     }
 
@@ -118,25 +117,5 @@ final class SensorTest {
         x.read(2, 6, 6, 6);
         x.frame();
         Check.same("with all off", 6, x.agreed(2));
-    }
-
-    private static void refusals() {
-        Triplane x = new Triplane();
-        x.read(0, 3, 3, 3);
-        for (int wrong : new int[] {-1, 4, Integer.MIN_VALUE, Integer.MAX_VALUE}) {
-            Check.refuses("read", IndexOutOfBoundsException.class, x, () -> x.read(wrong, 99999, 0, 0));
-            Check.refuses("limit", IndexOutOfBoundsException.class, x, () -> x.limit(wrong, -1));
-            Check.refuses("agreed", IndexOutOfBoundsException.class, x, () -> x.agreed(wrong));
-        }
-        for (int wrong : new int[] {-32769, 32768, Integer.MIN_VALUE, Integer.MAX_VALUE}) {
-            Check.refuses("one", IllegalArgumentException.class, x, () -> x.read(0, wrong, 0, 0));
-            Check.refuses("two", IllegalArgumentException.class, x, () -> x.read(0, 0, wrong, 0));
-            Check.refuses("three", IllegalArgumentException.class, x, () -> x.read(0, 0, 0, wrong));
-            Check.refuses("limit", IllegalArgumentException.class, x, () -> x.limit(0, wrong));
-        }
-        Check.refuses("limit", IllegalArgumentException.class, x, () -> x.limit(0, -1));
-        Check.same("the limit stays", 32767, x.limit(0, 32767));
-        x.frame();
-        Check.same("the readings stay", 3, x.agreed(0));
     }
 }

@@ -6,7 +6,6 @@ final class ShutTest {
         brings();
         whatTakesTheTestAway();
         theLowestOneIsTheModel();
-        refusals();
         Check.end();
     }
 
@@ -111,20 +110,5 @@ final class ShutTest {
         x.test(0);
         Check.same("back", 2, x.back(0));
         Check.same("of 2", 22, x.word(0, 0, 0));
-    }
-
-    private static void refusals() {
-        Triplane x = new Triplane();
-        for (int wrong : new int[] {-1, 3, Integer.MIN_VALUE, Integer.MAX_VALUE}) {
-            Check.refuses("shut", IndexOutOfBoundsException.class, x, () -> x.shut(wrong));
-            Check.refuses("test", IndexOutOfBoundsException.class, x, () -> x.test(wrong));
-            Check.refuses("back", IndexOutOfBoundsException.class, x, () -> x.back(wrong));
-        }
-        Check.refuses("back of one that is on", UnsupportedOperationException.class, x, () -> x.back(0));
-        for (int i = 0; i < 3; i++) {
-            x.shut(i);
-            x.test(i);
-        }
-        Check.refuses("back with no other one", UnsupportedOperationException.class, x, () -> x.back(0));
     }
 }

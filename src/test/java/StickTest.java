@@ -6,7 +6,6 @@ final class StickTest {
         sticksAsTheSlotBegins();
         newOneTakesThePlace();
         theSign();
-        refusals();
         Check.end();
     }
 
@@ -83,18 +82,5 @@ final class StickTest {
         x.frame();
         Check.same("not set already", 5, x.output(0));
         Check.same("the bit 15 not set", 32763, x.output(1));
-    }
-
-    private static void refusals() {
-        Triplane x = new Triplane();
-        Check.refuses("stick", IndexOutOfBoundsException.class, x, () -> x.stick(3, 0, 0, true));
-        Check.refuses("stick", IndexOutOfBoundsException.class, x, () -> x.stick(-1, 0, 0, true));
-        Check.refuses("stick", IndexOutOfBoundsException.class, x, () -> x.stick(0, 4, 0, true));
-        Check.refuses("stick", IndexOutOfBoundsException.class, x, () -> x.stick(0, -1, 0, true));
-        Check.refuses("stick", IndexOutOfBoundsException.class, x, () -> x.stick(0, 0, 16, true));
-        Check.refuses("stick", IndexOutOfBoundsException.class, x, () -> x.stick(0, 0, -1, true));
-        Check.refuses("fix", IndexOutOfBoundsException.class, x, () -> x.fix(3));
-        Check.refuses("fix", IndexOutOfBoundsException.class, x, () -> x.fix(-1));
-        Check.same("nothing stuck", false, x.fix(0));
     }
 }

@@ -8,7 +8,6 @@ final class VoteTest {
         nothingIsGivenToo();
         shutOffBehindTheBeat();
         strikesStay();
-        refusals();
         Check.end();
     }
 
@@ -113,13 +112,5 @@ final class VoteTest {
         Check.same("a strike stays", 1, x.strikes(1));
         x.shut(1);
         Check.same("off too", 1, x.strikes(1));
-    }
-
-    private static void refusals() {
-        Triplane x = new Triplane();
-        for (int wrong : new int[] {-1, 3, Integer.MIN_VALUE, Integer.MAX_VALUE}) {
-            Check.refuses("isOn", IndexOutOfBoundsException.class, x, () -> x.isOn(wrong));
-            Check.refuses("strikes", IndexOutOfBoundsException.class, x, () -> x.strikes(wrong));
-        }
     }
 }
