@@ -4,7 +4,6 @@ final class ActuatorTest {
         middles();
         letsGo();
         staysTillAReset();
-        doesNotGoRound();
         Check.end();
     }
 
@@ -71,20 +70,5 @@ final class ActuatorTest {
         Check.same("back again", 50, x.position(0));
         Check.same("holds", false, x.hasLetGo(0));
         Check.same("another one lets go anew", true, x.hasLetGo(1));
-    }
-
-    private static void doesNotGoRound() {
-        Triplane x = Check.running("l0 32767", "o0 0", "l0 -32768", "o0 1", "o0 2");
-        for (int i = 0; i < 3; i++) {
-            x.fault(0, i, 999);
-            x.fault(1, i, -999);
-        }
-        x.fault(2, 0, -50);
-        x.fault(2, 1, -20);
-        x.frame();
-        Check.same("above", 33766, x.position(0));
-        Check.same("below", -33767, x.position(1));
-        Check.same("near the edge", -32788, x.position(2));
-        Check.same("no far channels by going round", false, x.hasLetGo(2));
     }
 }

@@ -6,8 +6,6 @@ final class ClockTest {
         aLieIsOutvoted();
         liesAreForOneAndAllAtOnce();
         onlyThreeHoldTogether();
-        aShutInTheFrameCounts();
-        noRounding();
         Check.end();
     }
 
@@ -79,27 +77,5 @@ final class ClockTest {
         Check.same("of two on", 9, x.clock(0));
         Check.same("of two on", 2, x.clock(1));
         Check.same("off, and more by its drift", -5, x.clock(2));
-    }
-
-    private static void aShutInTheFrameCounts() {
-        Triplane x = new Triplane();
-        x.drift(0, 9);
-        x.drift(1, 2);
-        x.flip(2, 0, 1, 0);
-        x.flip(2, 0, 1, 1);
-        x.frame();
-        Check.same("the scrubber is ahead of clocks", 9, x.clock(0));
-        Check.same("and shut one off", 0, x.clock(2));
-    }
-
-    /** The document calls clocks no numbers, so they're taken not to go round. */
-    private static void noRounding() {
-        Triplane x = new Triplane();
-        for (int i = 0; i < 3; i++) {
-            x.lie(i, (i + 1) % 3, 999);
-            x.lie(i, (i + 2) % 3, 999);
-        }
-        Check.frames(x, 40);
-        Check.same("behind 40 frames", 39960, x.clock(1));
     }
 }

@@ -2,8 +2,6 @@
 final class CodeTest {
     public static void main(String[] args) {
         counts();
-        ranges();
-        refusalsInTheirOrder();
         clears();
         slots();
         kinds();
@@ -23,38 +21,6 @@ final class CodeTest {
         Check.refuses("the eleventh", IllegalStateException.class, x, () -> x.code(2, 'l', 0, 1));
         Check.same("clear of a full one", 10, x.clear(2));
         Check.same("code behind a clear", 1, x.code(2, 'l', 0, 1));
-    }
-
-    private static void ranges() {
-        String kinds = "lasmriojx";
-        int[] least = {-32768, 0, 0, 0, 0, 0, 0, 0};
-        int[] most = {32767, 3, 3, 5, 5, 3, 3, 9};
-        for (int i = 0; i < 8; i++) {
-            Triplane x = new Triplane();
-            char kind = kinds.charAt(i);
-            int below = least[i] - 1;
-            int above = most[i] + 1;
-            Check.same("least n of " + kind, 1, x.code(0, kind, 0, least[i]));
-            Check.same("most n of " + kind, 2, x.code(0, kind, 3, most[i]));
-            Check.refuses(kind + " with less", IllegalArgumentException.class, x, () -> x.code(0, kind, 0, below));
-            Check.refuses(kind + " with more", IllegalArgumentException.class, x, () -> x.code(0, kind, 0, above));
-            Check.refuses(kind + " of register -1", IllegalArgumentException.class, x, () -> x.code(0, kind, -1, 0));
-            Check.refuses(kind + " of register 4", IllegalArgumentException.class, x, () -> x.code(0, kind, 4, 0));
-            Check.same("nothing was added", 2, x.clear(0));
-        }
-    }
-
-    private static void refusalsInTheirOrder() {
-        Triplane x = new Triplane();
-        for (int i = 0; i < 10; i++) {
-            x.code(0, 'l', 0, 1);
-        }
-        Check.refuses("no partition", IndexOutOfBoundsException.class, x, () -> x.code(3, 'x', 9, 99999));
-        Check.refuses("no partition", IndexOutOfBoundsException.class, x, () -> x.code(-1, 'l', 0, 0));
-        Check.refuses("no kind of a full one", IllegalArgumentException.class, x, () -> x.code(0, 'x', 0, 0));
-        Check.refuses("no kind", IllegalArgumentException.class, x, () -> x.code(1, 'L', 0, 0));
-        Check.refuses("no number of a full one", IllegalArgumentException.class, x, () -> x.code(0, 'a', 0, 4));
-        Check.refuses("a full one", IllegalStateException.class, x, () -> x.code(0, 'a', 0, 3));
     }
 
     private static void clears() {

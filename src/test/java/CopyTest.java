@@ -7,7 +7,6 @@ final class CopyTest {
         theNewestGoodOneOutlives();
         aBadOneTakesAnOldOneAway();
         withoutFlips();
-        ofTheLowestOne();
         offOnesLoadNothing();
         partitionsAreApart();
         Check.end();
@@ -88,24 +87,6 @@ final class CopyTest {
         Check.same("loading writes", 4, x.word(0, 0, 0));
         Check.same("flips are gone", 1, x.flip(0, 0, 0, 5));
         Check.same("nothing mended", 0, x.mended(0));
-    }
-
-    private static void ofTheLowestOne() {
-        Triplane x = new Triplane();
-        x.stick(0, 0, 3, true);
-        x.stick(1, 0, 4, true);
-        fill(x, 1);
-        x.save(0, false);
-        Check.same("of 0", 9, x.load(0));
-        fill(x, 1);
-        x.shut(0);
-        x.save(0, false);
-        Check.same("of 1", 17, x.load(0));
-        Check.same("2 has it too", 17, x.word(2, 0, 0));
-        fill(x, 1);
-        x.shut(1);
-        x.save(0, false);
-        Check.same("of 2", 1, x.load(0));
     }
 
     private static void offOnesLoadNothing() {

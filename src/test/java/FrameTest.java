@@ -6,9 +6,7 @@ final class FrameTest {
         onlySlotsOfTheModeRun();
         outputs();
         plainRunsAlone();
-        overrunsAtTheEdge();
         overrunsOfEachSlot();
-        overrunsOfThoseOnOnly();
         Check.end();
     }
 
@@ -91,27 +89,6 @@ final class FrameTest {
         Check.same("is plain", false, y.isPlain());
     }
 
-    private static void overrunsAtTheEdge() {
-        // Two beats ahead, then nine loops of three beats: 29, and the ones behind.
-        Triplane x = Check.running("l0 9", "l1 1", "s0 1", "l2 0", "j0 2");
-        x.frame();
-        Check.same("29 beats", 0, x.overruns(0));
-        x.code(0, 'l', 3, 0);
-        x.frame();
-        Check.same("30 beats", 0, x.overruns(0));
-        x.code(0, 'l', 3, 0);
-        x.frame();
-        Check.same("31 beats", 1, x.overruns(0));
-        x.clear(0);
-        Check.same("overruns outlive the code", 1, x.overruns(0));
-        // The 30th beat still gives its output, a 31st does not.
-        Triplane y = Check.running("l0 9", "l1 1", "s0 1", "l2 0", "j0 2", "o1 0", "o1 1");
-        y.frame();
-        Check.same("beat 30", 1, y.output(0));
-        Check.same("beat 31", 0, y.output(1));
-        Check.same("beat 31 of the plain one", 0, y.plain(1));
-    }
-
     private static void overrunsOfEachSlot() {
         Triplane x = Check.running("l0 1", "j0 0");
         x.slot(0, 1, 1);
@@ -121,25 +98,5 @@ final class FrameTest {
         Check.same("the slot between", 0, x.overruns(1));
         x.frame();
         Check.same("two slots more", 4, x.overruns(0));
-    }
-
-    private static void overrunsOfThoseOnOnly() {
-        Triplane x = Check.running("l0 1", "j0 0");
-        for (int i = 0; i < 3; i++) {
-            x.shut(i);
-        }
-        x.frame();
-        Check.same("the plain one does not count", 0, x.overruns(0));
-        // Only one computer loops, without giving anything that the others don't.
-        for (int odd = 0; odd < 3; odd++) {
-            Triplane y = Check.running("l0 0", "j0 0");
-            y.stick(odd, 0, 0, true);
-            y.frame();
-            Check.same("one that loops counts", 1, y.overruns(0));
-            Check.same("with no strike", 0, y.strikes(odd));
-            y.shut(odd);
-            y.frame();
-            Check.same("one that is off does not", 1, y.overruns(0));
-        }
     }
 }

@@ -5,8 +5,6 @@ final class SensorTest {
         limits();
         nearAndFar();
         farThreeTimes();
-        farThreeTimesAnew();
-        aNearFrameBetween();
         agreesAheadOfSlots();
         Check.end();
     }
@@ -74,36 +72,6 @@ final class SensorTest {
         x.read(0, 70, 70, 70);
         x.frame();
         Check.same("far three times, each another number", 70, x.agreed(0));
-    }
-
-    private static void farThreeTimesAnew() {
-        Triplane x = new Triplane();
-        x.limit(0, 5);
-        x.read(0, 20, 20, 20);
-        Check.frames(x, 3);
-        Check.same("taken", 20, x.agreed(0));
-        x.read(0, 40, 40, 40);
-        x.frame();
-        Check.same("the one ahead took one", 20, x.agreed(0));
-        x.frame();
-        Check.same("the second one ahead took one", 20, x.agreed(0));
-        x.frame();
-        Check.same("taken anew", 40, x.agreed(0));
-    }
-
-    private static void aNearFrameBetween() {
-        Triplane x = new Triplane();
-        x.limit(0, 5);
-        x.read(0, 20, 20, 20);
-        Check.frames(x, 2);
-        x.read(0, 0, 0, 0);
-        x.frame();
-        x.read(0, 20, 20, 20);
-        Check.frames(x, 2);
-        Check.same("counted anew", 0, x.agreed(0));
-        x.limit(0, 20);
-        x.frame();
-        Check.same("by a limit that is wider", 20, x.agreed(0));
     }
 
     private static void agreesAheadOfSlots() {

@@ -4,8 +4,6 @@ final class ShutTest {
         shuts();
         tests();
         brings();
-        whatTakesTheTestAway();
-        theLowestOneIsTheModel();
         Check.end();
     }
 
@@ -63,52 +61,5 @@ final class ShutTest {
         Check.same("which is not 0", true, x.clock(1) != 0);
         Check.same("the log", "4:0b 3:0v", Check.lines(x));
         Check.refuses("back again", UnsupportedOperationException.class, x, () -> x.back(0));
-    }
-
-    private static void whatTakesTheTestAway() {
-        Triplane x = new Triplane();
-        x.shut(1);
-        x.test(1);
-        x.stick(1, 0, 0, true);
-        x.fix(1);
-        Check.refuses("behind a stick", UnsupportedOperationException.class, x, () -> x.back(1));
-        x.test(1);
-        x.stick(0, 0, 0, true);
-        x.fix(0);
-        Check.same("another one's stick", 3, x.back(1));
-        x.shut(1);
-        Check.refuses("behind a shut", UnsupportedOperationException.class, x, () -> x.back(1));
-        x.test(1);
-        Check.frames(x, 5);
-        Check.same("frames take nothing away", 3, x.back(1));
-        x.flip(1, 1, 0, 0);
-        x.flip(1, 1, 0, 1);
-        x.frame();
-        Check.same("off for its memory", false, x.isOn(1));
-        Check.refuses("behind that", UnsupportedOperationException.class, x, () -> x.back(1));
-    }
-
-    private static void theLowestOneIsTheModel() {
-        Triplane x = Check.running("l0 6", "m0 0");
-        x.stick(0, 0, 3, true);
-        x.stick(1, 0, 4, true);
-        x.drift(1, 9);
-        x.shut(2);
-        x.frame();
-        x.test(2);
-        x.back(2);
-        Check.same("of 0", 14, x.word(2, 0, 0));
-        Check.same("the clock of 0", 0, x.clock(2));
-        x.shut(2);
-        x.shut(0);
-        x.test(2);
-        x.back(2);
-        Check.same("of 1", 22, x.word(2, 0, 0));
-        Check.same("the clock of 1", 9, x.clock(2));
-        x.shut(1);
-        x.fix(0);
-        x.test(0);
-        Check.same("back", 2, x.back(0));
-        Check.same("of 2", 22, x.word(0, 0, 0));
     }
 }

@@ -4,7 +4,6 @@ final class StickTest {
         answers();
         sticksWheneverItBecomesSomething();
         sticksAsTheSlotBegins();
-        newOneTakesThePlace();
         theSign();
         Check.end();
     }
@@ -58,18 +57,6 @@ final class StickTest {
         Check.write(x, 1, "o2 1");
         x.frame();
         Check.same("in all partitions", 16, x.output(1));
-    }
-
-    private static void newOneTakesThePlace() {
-        Triplane x = alone("o0 0", "o1 1");
-        x.stick(0, 0, 3, true);
-        x.stick(0, 1, 4, true);
-        x.frame();
-        Check.same("the old one", 0, x.output(0));
-        Check.same("the new one", 16, x.output(1));
-        x.stick(0, 1, 4, false);
-        x.frame();
-        Check.same("the other way", 0, x.output(1));
     }
 
     private static void theSign() {
