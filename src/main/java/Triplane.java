@@ -508,7 +508,7 @@ public final class Triplane {
     }
 
     private void scrub() {
-        int at = frames % ALL_WORDS;
+        int at = Math.floorMod(frames, ALL_WORDS);
         for (int i = 0; i < COMPUTERS; i++) {
             if (computers[i].isRunning && !computers[i].memory.mend(at)) {
                 shutOff(i, 'm');
@@ -853,7 +853,7 @@ public final class Triplane {
         private int total = 0;
 
         void append(int time, int computer, char letter) {
-            int row = total % LINES;
+            int row = Math.floorMod(total, LINES);
             times[row] = time;
             computers[row] = computer;
             letters[row] = letter;
